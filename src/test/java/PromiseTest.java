@@ -157,6 +157,11 @@ public final class PromiseTest {
         landFault("town   ", 1, 7);
         landFault("  towns;", 1, 2);
         landFault("Town;", 1, 0);
+        landFault("townz;", 1, 0);
+        landFault("towna;", 1, 0);
+        landFault("town{;", 1, 4);
+        landFault("town`;", 1, 4);
+        landFault("town0;", 1, 4);
         landFault("town;;", 1, 5);
         landFault("town 0;", 1, 5);
         landFault("town;5", 1, 5);
@@ -169,6 +174,8 @@ public final class PromiseTest {
         landFault("town;town;road 0  00 1 0;", 2, 18);
         landFault("town;town;road 0 1 0 0;", 2, 19);
         landFault("town;town;road 0 1 41 0;", 2, 19);
+        landFault("town;town;road 0 1/1 0;", 1, 18);
+        landFault("town;town;road 0 1:1 0;", 1, 18);
         landFault("town;town;road 0 1 40 7;", 2, 22);
         landFault("town;town;road 0 1 4294967297 0;", 2, 19);
         landFault("carter 0 0;town;", 2, 7);
@@ -199,6 +206,9 @@ public final class PromiseTest {
         law("day", 5);
         law("week/10", 8);
         law("road-9", 2);
+        law("5-4+3", 4);
+        law("8/4*3%4", 2);
+        law("2*3%4", 2);
         law("2+3*2", 8);
         law("(2+3)*2-3", 7);
         law("9-4-3", 2);
