@@ -15,6 +15,10 @@ final class Check {
         }
     }
 
+    int wrong() {
+        return wrong;
+    }
+
     void noSuch(String what, Call call) {
         due(what + " (1 NoSuchElementException, 2 IllegalArgumentException)", 1, thrownBy(call));
     }
