@@ -509,13 +509,13 @@ public final class RoadHolidays {
     public int span(int seed, int many, int q, int hours, int what, int carter) throws IllegalArgumentException {
         require(within(many, 1, 10) && within(q, 0, 16) && within(hours, 1, 96));
         require(within(what, 0, 2) && within(carter, 0, land.carters - 1));
-        int fewest = Integer.MAX_VALUE;
+        int fewest = 0;
         int most = 0;
         int inTown = 0;
         for (int i = 0; i < many; i++) {
             liveYear(seed + i, q, hours);
             int came = trial.came - now.came;
-            fewest = Math.min(fewest, came);
+            fewest = i == 0 ? came : Math.min(fewest, came);
             most = Math.max(most, came);
             inTown += trial.on[carter] == NONE ? 1 : 0;
         }

@@ -247,6 +247,31 @@ final class ArgumentBoundaries {
         c.due("as wrong arguments", 3, x.status(1));
     }
 
+    @Says(in = 0, words = "Asked, nothing stays changed")
+    static void nothingStaysChanged(Check c) {
+        // Each call alone is asked at its edges above; here they come one behind the other.
+        Sight.same(c, "all calls that ask", Made::lively, x -> {
+            for (int i = 0; i < 2; i++) {
+                x.soon(0, 3, 0);
+                x.way(3, 0, 7, 1);
+                x.latest(1, 2, 5600, 200);
+                x.day(0, 2, 0);
+                x.farthest(0);
+                x.reach(0, 200);
+                x.part(0, 3, 1);
+                x.mend(0);
+                x.picnic(0);
+                x.look(2, 0);
+                x.arrives(0);
+                x.arrives(1);
+                x.year(3, 16, 96, 0);
+                x.span(-1, 10, 16, 96, 1, 1);
+                x.would(40, 999, 495, 5, 7, 6, 100, 11);
+                x.oats(0, 3, 12);
+            }
+        });
+    }
+
     @Says(in = 10, words = "NoSuchElementException: no such TOWN, ROAD, CARTER")
     static void nothingThere(Check c) {
         RoadHolidays x = Made.with("town;");

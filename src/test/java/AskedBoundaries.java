@@ -32,6 +32,30 @@ final class AskedBoundaries {
         c.due("on other days", 8, x.road(0, 7));
     }
 
+    @Says(in = 0, words = "and nobody else is on any ROAD")
+    static void cartersOnTheWayMatterNot(Check c) {
+        String law = "2+many*3+load+tired";
+        RoadHolidays x = Made.with(Made.LAND, law);
+        RoadHolidays y = Made.with(Made.LAND, law);
+        Check.work(x, "hour;");
+        Check.work(y, "set 0 2;set 1 1;hour;load 1 0;");
+        c.due("one is on a ROAD, one came", 1, y.told(7));
+        for (int r = 0; r < 4; r++) {
+            c.due("plain " + r, x.road(r, 7), y.road(r, 7));
+            c.due("lasts " + r, x.lasts(r, 1), y.lasts(r, 1));
+            c.due("fits " + r, x.fits(r), y.fits(r));
+            c.due("look " + r, x.look(r, 0), y.look(r, 0));
+            for (int t = 0; t < 4; t++) {
+                c.due("soon " + r + " " + t, x.soon(r, t, 1), y.soon(r, t, 1));
+                c.due("way " + r + " " + t, x.way(r, t, 1, 2), y.way(r, t, 1, 2));
+                c.due("latest " + r + " " + t, x.latest(r, t, 1, 30), y.latest(r, t, 1, 30));
+                c.due("day " + r + " " + t, x.day(r, t, 1), y.day(r, t, 1));
+            }
+            c.due("reach " + r, x.reach(r, 9), y.reach(r, 9));
+        }
+        c.due("farthest", x.farthest(2), y.farthest(2));
+    }
+
     @Says(in = 0, words = "A ROAD is TAKEN from HOUR h on: hour by hour PLAIN PACE is gone, until it is L or more.")
     static void takenUntilItIsTheLength(Check c) {
         int[] lengths = {1, 2, 3, 5, 6, 7, 39, 40};

@@ -108,6 +108,22 @@ final class HourBoundaries {
         does(c, Made.with(LAND), "again 60[turn 0;turn 0;turn 0;turn 0;];turn 0;", 0, 199);
     }
 
+    @Says(in = 0, words = "what would come behind is left out.")
+    static void leftOut(Check c) {
+        String all = "again 60[hour;hour;hour;turn 0;];";
+        for (String more : new String[] {"load 0 99;", "off 0 6;", "set 0 0;", "turn 0;", "again 1[load 0 99;];", "again 0[];"}) {
+            // The again has 240 STEPS, so that nothing behind it is come to.
+            Sight.same(c, "left out: " + more, () -> {
+                RoadHolidays x = Made.with(LAND);
+                does(c, x, all, 150, 49);
+                return x;
+            }, x -> {
+                x.undo();
+                does(c, x, all + more, 150, 49);
+            });
+        }
+    }
+
     @Says(in = 0, words = "set: the CARTER is on ROAD R, with no mile gone, toward its other TOWN (REFUSED, if he is on a ROAD, or R does not go from his TOWN).")
     static void settingOut(Check c) {
         RoadHolidays x = Made.with(LAND);
@@ -164,6 +180,15 @@ final class HourBoundaries {
         carter(c, "it rested", x, 0, 0, 0, 4, 10, 1);
         does(c, x, "hour;", 1, 0);
         carter(c, "it goes again", x, 0, 0, -1, 0, 10, 1);
+    }
+
+    @Says(in = 0, words = "(REFUSED, if he is in a TOWN)")
+    static void turningInATown(Check c) {
+        RoadHolidays x = Made.with(LAND);
+        does(c, x, "turn 0;turn 1;", 0, 2);
+        does(c, x, "set 0 0;turn 0;turn 1;", 2, 1);
+        does(c, x, "hour;turn 0;", 1, 1);
+        carter(c, "still in his town", x, 0, 0, -1, 0, 10, 1);
     }
 
     @Says(in = 0, words = "load: his load is N (REFUSED, if it is).")

@@ -20,6 +20,9 @@ public final class LanguageTest {
         "joined 1 I", "part 3 NI", "mend 1 I", "picnic 1 I", "fits 1 N", "look 2 NI", "inn 3 I", "luck 4 I", "oats 3 NI",
         "weariest 1 I", "arrives 1 N", "reach 2 NI", "year 4 I", "span 6 I", "image 0", "restore 0", "status 1", "count 1"};
 
+    private static final java.util.regex.Pattern LIBRARY = java.util.regex.Pattern.compile("\\b(Integer|Long|Math|Arrays|System|String|List)\\.\\w+");
+    private static final Set<String> USED = Set.of("Integer.bitCount", "Math.min", "Math.max", "Arrays.fill", "System.arraycopy");
+
     public static void main(String[] args) throws Exception {
         face();
         members();
@@ -86,6 +89,10 @@ public final class LanguageTest {
                 yes(place + no, !line.contains(no));
             }
             yes(place + "sign beyond 127", line.chars().allMatch(c -> c < 128));
+            java.util.regex.Matcher used = LIBRARY.matcher(line);
+            while (used.find()) {
+                yes(place + "call of the library that no rule lists", USED.contains(used.group()));
+            }
             if (line.startsWith("import ")) {
                 yes(place + "other library", line.equals("import java.util.Arrays;") || line.equals("import java.util.NoSuchElementException;"));
             }

@@ -104,6 +104,33 @@ final class LawBoundaries {
         }
     }
 
+    @Says(in = 0, words = "PACE of a ROAD: what comes out")
+    static void eachRoadByItsOwnValues(Check c) {
+        RoadHolidays x = Made.with("town;town;road 0 1 1 6;road 0 1 9 6;road 0 1 40 6;carter 0 0;carter 1 0;");
+        int[] lengths = {1, 9, 9};
+        for (int r = 0; r < 3; r++) {
+            Check.law(x, "length");
+            // What was asked of others ahead of it leaves nothing.
+            x.would(5, 0, 0, 0, 0, 0, 0, 5);
+            c.due("length of road " + r, lengths[r], x.road(r, 6));
+            x.would(5, 0, 0, 0, 0, 0, 0, 5);
+            c.due("plain length of road " + r, lengths[r], x.road(r, 7));
+            Check.law(x, "road*2");
+            x.would(5, 9, 9, 5, 5, 5, 5, 5);
+            c.due("number of road " + r, 2 * r, x.road(r, 6));
+            x.would(5, 9, 9, 5, 5, 5, 5, 5);
+            c.due("plain number of road " + r, 2 * r, x.road(r, 7));
+        }
+        // The same in an hour that passes on two of them.
+        Check.work(x, "set 0 1;set 1 2;hour;");
+        c.due("by road 1", 2, x.carter(0, 2));
+        c.due("by road 2", 4, x.carter(1, 2));
+        Check.law(x, "(length+2)/7");
+        Check.work(x, "hour;");
+        c.due("by length 9", 2 + 1, x.carter(0, 2));
+        c.due("by length 40", 4 + 6, x.carter(1, 2));
+    }
+
     @Says(in = 0, words = "Values are whole numbers of 32 bits that wrap")
     static void valuesWrap(Check c) {
         gives(c, "512*512*512*16-1", 9);

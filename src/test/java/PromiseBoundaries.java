@@ -104,6 +104,33 @@ final class PromiseBoundaries {
         refusedTexts(c, 0, 601);
     }
 
+    @Says(in = 3, words = "The first n bytes of the TAPE (empty then)")
+    static void nothingBehindTheFirstBytesIsRead(Check c) {
+        RoadHolidays x = Made.with(Made.LAND);
+        for (int n = 1; n <= 3; n++) {
+            Check.feed(x, "1111111111");
+            c.due("law of " + n, 1, x.law(n));
+            c.due("its pace", n == 1 ? 1 : 9, x.road(0, 7));
+            c.due("the TAPE is empty", 0, x.count(1));
+        }
+        Check.feed(x, "(1)+5");
+        c.due("law(3)", 1, x.law(3));
+        c.due("without what is added", 1, x.road(0, 7));
+        // Signs, letters, digits and blanks behind the last byte are none of the text's.
+        String[] texts = {"town", "town;", "townx;", "town ;", "town;town;road 0 1 4", "town;town;road 0 1 40 0", "town;carter 0 9;"};
+        int[] bytes = {3, 4, 4, 5, 20, 22, 15};
+        int[] places = {0, 4, 4, 5, 20, 22, 15};
+        for (int i = 0; i < texts.length; i++) {
+            Check.feed(x, texts[i]);
+            c.due("land of " + bytes[i] + " of '" + texts[i] + "'", -9, x.land(bytes[i]));
+            c.due("at the length, or the word", places[i], x.fault());
+        }
+        Check.feed(x, "hour;hour;");
+        c.due("one hour", 1, x.work(5));
+        Check.feed(x, "0 1;2 3;");
+        c.due("one line", 1, x.book(4));
+    }
+
     @Says(in = 4, words = "Likewise the LAW (n to 150): 1.")
     static void bytesOfLaws(Check c) {
         refusedTexts(c, 1, 151);
@@ -206,6 +233,10 @@ final class PromiseBoundaries {
             y.image();
             Check.work(y, "off 0 5;load 0 7;hour;");
             c.due("towns", 4, Check.land(y, Made.LAND));
+        });
+        Sight.same(c, "CARTERS on the way, and one who turned", () -> Made.with(Made.LAND), y -> {
+            Check.work(y, "set 0 2;set 1 2;hour;turn 1;");
+            Check.land(y, Made.LAND);
         });
         Sight.same(c, "calls refused stay counted", () -> Made.with("town;"), y -> {
             Check.thrownBy(() -> y.town(1, 0));
@@ -324,6 +355,52 @@ final class PromiseBoundaries {
         Check.law(x, ")");
         Check.feed(x, "town;");
         return x;
+    }
+
+    @Says(in = 9, words = "0 TOWNS, 1 ROADS, 2 CARTERS")
+    static void noneAndAllOfThem(Check c) {
+        int[][] many = {{0, 0, 0}, {7, 12, 5}};
+        String[] lands = {"", Made.FULL_LAND};
+        for (int i = 0; i < lands.length; i++) {
+            for (int what = 0; what <= 2; what++) {
+                c.due("told " + what, many[i][what], Made.with(lands[i]).told(what));
+            }
+        }
+    }
+
+    @Says(in = 9, words = "9 lines of the BOOK")
+    static void linesOfTheBook(Check c) {
+        RoadHolidays x = new RoadHolidays();
+        c.due("no BOOK", 0, x.told(9));
+        c.due("six", 6, Check.book(x, "0 0;1 0;2 0;3 0;4 0;55 0;"));
+        c.due("six lines", 6, x.told(9));
+        Check.book(x, "0 0;0 0;");
+        c.due("a faulty one is none", 6, x.told(9));
+        c.due("none", 0, x.book(0));
+        c.due("no lines", 0, x.told(9));
+    }
+
+    @Says(in = 10, words = "Of a TOWN: 0 ROADS that go from it (bits), 1 CARTERS in it (bits).")
+    static void ofATown(Check c) {
+        RoadHolidays x = Made.with(Made.FULL_LAND);
+        c.due("no ROADS", 0, x.town(0, 0));
+        c.due("all ROADS", 4095, x.town(5, 0));
+        c.due("all by their other end", 4095, x.town(6, 0));
+        c.due("no CARTERS", 0, x.town(5, 1));
+        c.due("all CARTERS", 31, x.town(6, 1));
+        Check.work(x, "set 4 0;");
+        c.due("who set out is in none", 15, x.town(6, 1));
+        c.due("toward which he goes neither", 0, x.town(5, 1));
+    }
+
+    @Says(in = 12, words = "3 his load")
+    static void loadsOfCarters(Check c) {
+        RoadHolidays x = Made.with("town;carter 0 0;carter 0 99;");
+        c.due("none", 0, x.carter(0, 3));
+        c.due("the most", 99, x.carter(1, 3));
+        Check.work(x, "load 0 99;load 1 0;");
+        c.due("the most now", 99, x.carter(0, 3));
+        c.due("none now", 0, x.carter(1, 3));
     }
 
     @Says(in = 9, words = "10 STEPS REFUSED by the latest WORK (0 ahead of any, behind land() without a FAULT, undo(), restore())")
@@ -538,7 +615,31 @@ final class PromiseBoundaries {
             Check.feed(y, "town;");
             y.restore();
         });
+        // The WORKS of the IMAGE are undone, not those that were done in their stead.
+        Sight.same(c, "other WORKS", PromiseBoundaries::threeWorks, y -> {
+            y.image();
+            y.undo();
+            y.undo();
+            Check.work(y, "load 1 1;set 1 3;off 2 2;");
+            y.image();
+            y.undo();
+            y.undo();
+            for (int i = 0; i < 6; i++) {
+                Check.work(y, "load 0 " + (i + 50) + ";hour;");
+            }
+            c.due("one is left", 1, y.restore());
+            c.due("two WORKS", 2, y.count(2));
+            c.due("none is left", 0, y.restore());
+            c.due("three WORKS", 3, y.count(2));
+        });
         Sight.same(c, "restore() without IMAGES", () -> Made.worked("set 0 2;hour;turn 1;"), y -> c.due("restore", -1, y.restore()));
+    }
+
+    private static RoadHolidays threeWorks() {
+        RoadHolidays x = Made.worked("set 0 2;hour;load 1 7;");
+        Check.work(x, "turn 0;off 1 5;load 0 3;");
+        Check.work(x, "hour;set 1 1;off 0 4;");
+        return x;
     }
 
     @Says(in = 36, words = "How many calls were refused: 0 NoSuchElementException, 1 IllegalArgumentException; NONE for others. (No IMAGE keeps it.)")

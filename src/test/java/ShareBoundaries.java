@@ -111,6 +111,17 @@ final class ShareBoundaries {
         return all;
     }
 
+    @Says(in = 0, words = "levelled: no more than that each")
+    static void noMoreThanHisLoad(Check c) {
+        RoadHolidays x = Made.with("town;carter 0 0;carter 0 1;carter 0 99;");
+        c.due("no load", 0, x.oats(0, 7, 999));
+        c.due("a load of one", 1, x.oats(1, 7, 999));
+        c.due("of 99", 99, x.oats(2, 7, 999));
+        c.due("of 99, of just as many", 99, x.oats(2, 7, 100));
+        c.due("of 99, of one less", 98, x.oats(2, 7, 99));
+        c.due("of 99, by himself", 99, x.oats(2, 4, 99));
+    }
+
     @Says(in = 28, words = "(0, if he is none of them)")
     static void noneOfThem(Check c) {
         RoadHolidays x = Made.with("town;" + "carter 0 9;".repeat(5));
