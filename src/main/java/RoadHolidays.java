@@ -984,7 +984,7 @@ public final class RoadHolidays {
         /** By what is given now. */
         int pace() {
             int top = 0;
-            for (int i = 0; i < size; i++) {
+            for (int i = 0; i < size && top < LAW_BYTES; i++) {
                 if (kinds[i] == NUMBER) {
                     stack[top] = values[i];
                     top++;
